@@ -30,10 +30,8 @@ public final class HarrowSaid {
     private final boolean[] kept;
     private final Nave spare;
     private final Way path;
-    private final int[] text;
-    private final Reader reader;
+    private final Text text;
     private final int[] values;
-    private int textSize;
     private long above;
     private long below;
     private int bads;
@@ -49,8 +47,7 @@ public final class HarrowSaid {
         kept = new boolean[IMAGES];
         spare = new Nave();
         path = new Way();
-        text = new int[TEXT_LIMIT];
-        reader = new Reader(text, spare);
+        text = new Text();
         values = new int[KINDS];
         below = 1;
     }
@@ -91,24 +88,24 @@ public final class HarrowSaid {
         if (!isBelow(c, 128)) {
             return refuseBad();
         }
-        if (textSize >= TEXT_LIMIT) {
+        if (text.size >= TEXT_LIMIT) {
             return refuseFull();
         }
-        text[textSize] = c;
-        textSize++;
-        return textSize;
+        text.bytes[text.size] = c;
+        text.size++;
+        return text.size;
     }
 
     public int clear() {
-        int had = textSize;
-        textSize = 0;
+        int had = text.size;
+        text.size = 0;
         return had;
     }
 
     public int read() {
-        int items = reader.readItems(textSize);
+        int items = text.readItems();
         if (items >= 0) {
-            now.nave.copyFrom(spare);
+            now.nave.copyFrom(text.nave);
             now.dropNotes();
         }
         return items;
@@ -674,102 +671,80 @@ public final class HarrowSaid {
             case 8:
                 return now.past.size;
             default:
-                return textSize;
+                return text.size;
         }
     }
 
-    /** How high the KINDS of SAYINGS stand, d deep and a WEEKS old. */
+    /** The KINDS of SAYINGS. */
     private static final class Saying {
-        static int sermon(int d, int a) {
-            return d >= 1 ? Math.min(a, 9) : 0;
-        }
+        static final int SERMON = 0;
+        static final int GRACE = 1;
+        static final int HOT = 2;
+        static final int LAUD = 3;
+        static final int CLOD = 4;
 
-        static int grace(int d, int a) {
-            int sermon = sermon(d, a);
-            return sermon >= 1 ? sermon + 2 : 0;
-        }
-
-        static int hot(int d, int a) {
-            return d >= 4 ? 2 * sermon(d, a) : sermon(d, a);
-        }
-
-        static int laud(int d, int a) {
-            return a < 6 ? 0 : hot(d, a);
-        }
-
-        static int clod(int d, int a) {
-            return sermon(d, a) / 2;
-        }
-
-        static int verse(int d, int a) {
-            int grace = grace(d, a);
-            return grace >= 1 ? Math.max(grace - d, 1) : 0;
-        }
-
+        /** How high a KIND stands, d deep and a WEEKS old. */
         static int stands(int kind, int d, int a) {
+            int sermon = d < 1 ? 0 : a > 9 ? 9 : a;
+            int grace = sermon >= 1 ? sermon + 2 : 0;
+            int hot = d >= 4 ? 2 * sermon : sermon;
             switch (kind) {
-                case 0:
-                    return sermon(d, a);
-                case 1:
-                    return grace(d, a);
-                case 2:
-                    return hot(d, a);
-                case 3:
-                    return laud(d, a);
-                case 4:
-                    return clod(d, a);
+                case SERMON:
+                    return sermon;
+                case GRACE:
+                    return grace;
+                case HOT:
+                    return hot;
+                case LAUD:
+                    return a < 6 ? 0 : hot;
+                case CLOD:
+                    return sermon / 2;
                 default:
-                    return verse(d, a);
+                    return verse(grace, d);
             }
         }
+
+        static int verse(int grace, int d) {
+            if (grace < 1) {
+                return 0;
+            }
+            return grace - d < 1 ? 1 : grace - d;
+        }
     }
 
-    /** By how much the KINDS of HARROWS drag deeper what lies d deep, STONY by s. */
+    /** The KINDS of HARROWS. */
     private static final class Harrow {
-        static int plain(int s) {
-            return 4 - s;
-        }
+        static final int PLAIN = 0;
+        static final int GREYS = 1;
+        static final int CHAINS = 2;
+        static final int CURATES = 3;
+        static final int LIGHT = 4;
 
-        static int greys(int s) {
-            return plain(s) + 1;
-        }
-
-        static int chains(int s) {
-            return (plain(s) + 1) / 2;
-        }
-
-        static int curates(int s) {
-            return s <= 1 ? greys(s) + 3 : greys(s);
-        }
-
-        static int light(int s) {
-            return Math.min(chains(s), 1);
-        }
-
-        static int old(int d, int s) {
-            return Math.max(plain(s) - d, 0);
-        }
-
+        /** By how much a KIND drags deeper what lies d deep, STONY by s. */
         static int dragsBy(int kind, int d, int s) {
+            int plain = 4 - s;
+            int greys = plain + 1;
+            int chains = (plain + 1) / 2;
             switch (kind) {
-                case 0:
-                    return plain(s);
-                case 1:
-                    return greys(s);
-                case 2:
-                    return chains(s);
-                case 3:
-                    return curates(s);
-                case 4:
-                    return light(s);
+                case PLAIN:
+                    return plain;
+                case GREYS:
+                    return greys;
+                case CHAINS:
+                    return chains;
+                case CURATES:
+                    return s <= 1 ? greys + 3 : greys;
+                case LIGHT:
+                    return chains > 1 ? 1 : chains;
                 default:
-                    return old(d, s);
+                    return plain < d ? 0 : plain - d;
             }
         }
 
         /** How deep that lies behind a STEP which lay d deep ahead of it. */
         static int deeper(int kind, int d, int s) {
-            return Math.min(d + dragsBy(kind, d, s), DEPTHS - 1);
+            int deep = d + dragsBy(kind, d, s);
+            return deep < DEPTHS ? deep : DEPTHS - 1;
         }
     }
 
@@ -1031,70 +1006,69 @@ public final class HarrowSaid {
         }
     }
 
-    /** Reads THE TEXT into a nave, TOKEN by TOKEN. */
-    private static final class Reader {
+    /** THE TEXT, and how it is read into a nave of its own, TOKEN by TOKEN. */
+    private static final class Text {
         static final int WORD = 0;
         static final int NUMBER = 1;
         static final int CLOSE = 2;
         static final int STRANGE = 3;
         static final int ENDED = 4;
+        static final int FAULT = -10;
         static final int MOST_STEPS = 9;
         static final int MOST_WEEKS = 99;
 
-        final int[] text;
-        final Nave nave;
+        final int[] bytes = new int[TEXT_LIMIT];
+        final Nave nave = new Nave();
         int size;
         int place;
         int start;
         int token;
         int value;
 
-        Reader(int[] text, Nave nave) {
-            this.text = text;
-            this.nave = nave;
-        }
-
         /** How many ITEMS there are, the nave being as they say, or -10 less the FAULT. */
-        int readItems(int length) {
-            size = length;
-            place = 0;
+        int readItems() {
             int items = 0;
+            place = 0;
             advance();
             while (items < TEXT_LIMIT && token != ENDED) {
                 if (!takesItem(items == 0)) {
-                    return -10 - start;
+                    return FAULT - start;
                 }
                 items++;
             }
-            return items == 0 ? -10 - start : items;
+            return items == 0 ? FAULT - start : items;
         }
 
-        /** Goes on to the next TOKEN; one that ENDED starts at the TEXT's length. */
+        /** Goes on to the next TOKEN; ENDED starts at the TEXT's length, where its FAULT is. */
         void advance() {
-            while (place < size && text[place] == ' ') {
+            while (place < size && bytes[place] == ' ') {
                 place++;
             }
             start = place;
             if (place >= size) {
                 token = ENDED;
-            } else if (isLetter(text[place])) {
-                token = WORD;
-                while (place < size && isLetter(text[place])) {
-                    place++;
-                }
-            } else if (isFigure(text[place])) {
+            } else if (isLetter(bytes[place])) {
+                advanceWord();
+            } else if (isFigure(bytes[place])) {
                 advanceNumber();
             } else {
-                token = text[place] == ';' ? CLOSE : STRANGE;
+                token = bytes[place] == ';' ? CLOSE : STRANGE;
                 place++;
             }
         }
 
+        void advanceWord() {
+            while (place < size && isLetter(bytes[place])) {
+                place++;
+            }
+            token = WORD;
+        }
+
         void advanceNumber() {
             value = 0;
-            while (place < size && isFigure(text[place])) {
+            while (place < size && isFigure(bytes[place])) {
                 if (place - start < 2) {
-                    value = 10 * value + text[place] - '0';
+                    value = 10 * value + bytes[place] - '0';
                 }
                 place++;
             }
@@ -1109,32 +1083,27 @@ public final class HarrowSaid {
             return sign >= '0' && sign <= '9';
         }
 
-        /** False, if the TOKEN at start can not stand there. */
+        /** False, if the TOKEN at start can not stand there; so do all that take something. */
         boolean takesItem(boolean first) {
+            boolean stands = false;
             if (token != WORD || first != isWord("nave")) {
                 return false;
+            } else if (first) {
+                stands = takesNave();
+            } else if (isWord("stony")) {
+                stands = takesStony();
+            } else if (isWord("say")) {
+                stands = takesSay();
+            } else if (isWord("drag")) {
+                stands = takesDrag();
+            } else if (isWord("weeks")) {
+                stands = takesWeeks();
             }
-            if (!takesWord() || token != CLOSE) {
+            if (!stands || token != CLOSE) {
                 return false;
             }
             advance();
             return true;
-        }
-
-        boolean takesWord() {
-            if (isWord("nave")) {
-                return takesNave();
-            }
-            if (isWord("stony")) {
-                return takesStony();
-            }
-            if (isWord("say")) {
-                return takesSay();
-            }
-            if (isWord("drag")) {
-                return takesDrag();
-            }
-            return isWord("weeks") && takesWeeks();
         }
 
         boolean isWord(String word) {
@@ -1142,7 +1111,7 @@ public final class HarrowSaid {
                 return false;
             }
             for (int i = 0; i < word.length(); i++) {
-                if (text[start + i] != word.charAt(i)) {
+                if (bytes[start + i] != word.charAt(i)) {
                     return false;
                 }
             }
@@ -1229,7 +1198,8 @@ public final class HarrowSaid {
             if (!isNumber(1, MOST_WEEKS)) {
                 return false;
             }
-            for (int n = 0; n < value; n++) {
+            int many = value;
+            for (int n = 0; n < many; n++) {
                 nave.passWeek();
             }
             advance();
