@@ -14,6 +14,7 @@ public final class HarrowSaid {
     private static final int LAST_WEEK = 9999;
     private static final int LOOK_AHEAD = 60;
     private static final int TALLEST = 20;
+    private static final int TELL_AGES = 21;
     private static final int IN_EAR = 8;
     private static final int TEXT_LIMIT = 150;
     private static final int SEEN_LIMIT = 5;
@@ -286,9 +287,9 @@ public final class HarrowSaid {
         int fitting = sayingsFor(c);
         int fewest = KINDS + 1;
         int best = NONE;
-        for (int look = 0; look < DEPTHS * 21 && fitting != 0; look++) {
-            int d = look / 21;
-            int a = look % 21;
+        for (int look = 0; look < DEPTHS * TELL_AGES && fitting != 0; look++) {
+            int d = look / TELL_AGES;
+            int a = look % TELL_AGES;
             for (int kind = 0; kind < KINDS; kind++) {
                 values[kind] = Saying.stands(kind, d, a);
             }
@@ -1083,7 +1084,7 @@ public final class HarrowSaid {
             return sign >= '0' && sign <= '9';
         }
 
-        /** False, if the TOKEN at start can not stand there; so do all that take something. */
+        /** False, if the TOKEN at start can not stand there, as with all that take something. */
         boolean takesItem(boolean first) {
             boolean stands = false;
             if (token != WORD || first != isWord("nave")) {
@@ -1167,30 +1168,20 @@ public final class HarrowSaid {
             return true;
         }
 
+        /** A number too many, or too large, is left for what ends the ITEM to stumble at. */
         boolean takesDrag() {
+            int steps = 0;
             advance();
-            if (!takesStep()) {
-                return false;
-            }
-            for (int n = 1; n < MOST_STEPS && token == NUMBER; n++) {
-                if (!takesStep()) {
+            while (steps < MOST_STEPS && isNumber(0, STEPS - 1)) {
+                int cell = beside(nave.at, value);
+                if (cell == NONE) {
                     return false;
                 }
+                nave.stepTo(cell);
+                advance();
+                steps++;
             }
-            return true;
-        }
-
-        boolean takesStep() {
-            if (!isNumber(0, STEPS - 1)) {
-                return false;
-            }
-            int cell = beside(nave.at, value);
-            if (cell == NONE) {
-                return false;
-            }
-            nave.stepTo(cell);
-            advance();
-            return true;
+            return steps > 0;
         }
 
         boolean takesWeeks() {

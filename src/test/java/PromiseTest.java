@@ -207,6 +207,10 @@ public final class PromiseTest {
         reads("nave 0 0;drag 1", -25);
         reads("nave 0 0;drag", -23);
         reads("nav 0 0;", -10);
+        reads("xave 0 0;", -10);
+        reads("nave 0 0;bay 0 0;", -19);
+        reads("nave 0 0;sayz 0 0;", -19);
+        reads("nave 0 0;drag 1 4;", -26);
         reads("Nave 0 0;", -10);
         reads("naVe 0 0;", -10);
         reads("say 0 0;", -10);
