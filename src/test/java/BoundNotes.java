@@ -70,9 +70,10 @@ final class BoundNotes {
     }
 
     private void tell() {
-        b.sentence(21, "by which the most of these KINDS that stand as high are fewest; of like ones the least");
+        b.sentence(21, "TELL: 100 d and a (d 0 .. 9, a 0 .. 20)");
         HarrowSaid x = new HarrowSaid();
         b.due("tell(0) of all KINDS", x.tell(0), 405);
+        b.sentence(21, "by which the most of these KINDS that stand as high are fewest; of like ones the least");
         x.seen(0, 1, 1, 3);
         b.due("said(0)", x.said(0), 2);
         b.due("tell(0) of one KIND: the first look of all", x.tell(0), 0);
@@ -149,9 +150,10 @@ final class BoundNotes {
     }
 
     private void ask() {
-        b.sentence(25, "by which the most of these KINDS that drag by as much are fewest; of like ones the least; none: no KIND.");
+        b.sentence(25, "ASK: 10 s and d (s 0 .. 4, d 0 .. 9)");
         HarrowSaid x = new HarrowSaid();
         b.due("ask() of all KINDS", x.ask(), 1);
+        b.sentence(25, "by which the most of these KINDS that drag by as much are fewest; of like ones the least; none: no KIND.");
         x.mark(0, 0, 8);
         b.due("ask() of one KIND: the first look of all", x.ask(), 0);
         x.forget(1);
@@ -355,6 +357,7 @@ final class BoundNotes {
         b.due("years(0, 0): what is GREEN now", x.years(0, 0), 25);
         b.due("years(999999, 0)", x.years(999999, 0), 25);
         b.due("years(999999, 60) of a full nave", x.years(999999, 60), 25);
+        b.sentence(29, "X is SEED at first; ahead of each WEEK X becomes");
         x = new HarrowSaid();
         // X is 12345: SERMON, in cell 0, a step up.
         x.nave(0, 5);
