@@ -359,7 +359,7 @@ public final class HarrowSaid {
         }
         int bits = 0;
         for (int lay = 0; lay < DEPTHS; lay++) {
-            if (Harrow.deeper(now.nave.harrow, lay, now.nave.stony[c]) == d) {
+            if (Harrow.depthAfter(now.nave.harrow, lay, now.nave.stony[c]) == d) {
                 bits |= 1 << lay;
             }
         }
@@ -520,7 +520,7 @@ public final class HarrowSaid {
         return m >= 0 && m <= LOOK_AHEAD;
     }
 
-    /** The CELL to which a STEP leads; NONE if it leads out of the nave. */
+    /** NONE, if the STEP leads out of the nave: who asks must look, ahead of using it as a CELL. */
     private static int beside(int cell, int step) {
         int row = cell / SIDE;
         int column = cell % SIDE;
@@ -541,7 +541,7 @@ public final class HarrowSaid {
         return isBelow(row, SIDE) && isBelow(column, SIDE) ? row * SIDE + column : NONE;
     }
 
-    /** How many CELLS are GREEN behind three STEPS and m WEEKS; NONE if a STEP leads out. */
+    /** NONE, if a STEP leads out, so that such three are never the most. */
     private int greensByThree(int first, int second, int third, int m) {
         int one = beside(now.nave.at, first);
         int two = one == NONE ? NONE : beside(one, second);
@@ -597,7 +597,7 @@ public final class HarrowSaid {
         return true;
     }
 
-    /** The size of the largest group of the told KINDS whose values are the same. */
+    /** However a look turns out, no more of the told KINDS than these are left behind it. */
     private int mostAlike(int told) {
         int most = 0;
         for (int one = 0; one < KINDS; one++) {
@@ -676,7 +676,7 @@ public final class HarrowSaid {
         }
     }
 
-    /** The KINDS of SAYINGS. */
+    /** Each KIND leans on the one that it is under, so that all are reckoned from SERMON. */
     private static final class Saying {
         static final int SERMON = 0;
         static final int GRACE = 1;
@@ -684,7 +684,6 @@ public final class HarrowSaid {
         static final int LAUD = 3;
         static final int CLOD = 4;
 
-        /** How high a KIND stands, d deep and a WEEKS old. */
         static int stands(int kind, int d, int a) {
             int sermon = d < 1 ? 0 : a > 9 ? 9 : a;
             int grace = sermon >= 1 ? sermon + 2 : 0;
@@ -713,7 +712,7 @@ public final class HarrowSaid {
         }
     }
 
-    /** The KINDS of HARROWS. */
+    /** Each KIND leans on the one that it is under, so that all are reckoned from PLAIN. */
     private static final class Harrow {
         static final int PLAIN = 0;
         static final int GREYS = 1;
@@ -721,7 +720,6 @@ public final class HarrowSaid {
         static final int CURATES = 3;
         static final int LIGHT = 4;
 
-        /** By how much a KIND drags deeper what lies d deep, STONY by s. */
         static int dragsBy(int kind, int d, int s) {
             int plain = 4 - s;
             int greys = plain + 1;
@@ -742,14 +740,14 @@ public final class HarrowSaid {
             }
         }
 
-        /** How deep that lies behind a STEP which lay d deep ahead of it. */
-        static int deeper(int kind, int d, int s) {
+        /** Apart from dragsBy, since MARKS and looks tell by how much it drags, though nothing comes below DEPTH 9. */
+        static int depthAfter(int kind, int d, int s) {
             int deep = d + dragsBy(kind, d, s);
             return deep < DEPTHS ? deep : DEPTHS - 1;
         }
     }
 
-    /** The cells, the harrow and the week. */
+    /** Apart from what was noted, since looks ahead try things out in a nave of their own. */
     private static final class Nave {
         final int[] stony = new int[CELLS];
         /** A SAYING as one number, 1000 KIND, 100 DEPTH and AGE, or NONE: a nave is copied often. */
@@ -842,7 +840,7 @@ public final class HarrowSaid {
             at = cell;
             if (liesIn(cell)) {
                 int depth = depthIn(cell);
-                int more = Harrow.deeper(harrow, depth, stony[cell]) - depth;
+                int more = Harrow.depthAfter(harrow, depth, stony[cell]) - depth;
                 lies[cell] += 100 * more;
             }
         }
@@ -859,7 +857,7 @@ public final class HarrowSaid {
         }
     }
 
-    /** What may be undone, the oldest first. */
+    /** One row for all that may be undone, since an IMAGE copies it whole; the oldest comes first, for it goes first. */
     private static final class Past {
         static final int LIMIT = 8;
         static final int WIDTH = CELLS + 2;
@@ -895,7 +893,7 @@ public final class HarrowSaid {
         }
     }
 
-    /** All that an IMAGE keeps. */
+    /** Held together because an IMAGE keeps just this. */
     private static final class State {
         final Nave nave = new Nave();
         final Past past = new Past();
@@ -920,7 +918,7 @@ public final class HarrowSaid {
         }
     }
 
-    /** The fewest STEPS through told CELLS. */
+    /** Nothing bars a way, so that only the order of the told CELLS makes it longer or shorter. */
     private static final class Way {
         static final int SETS = 1 << WAY_LIMIT;
         /** More than any way through five CELLS has. */
@@ -977,7 +975,7 @@ public final class HarrowSaid {
             return Math.abs(one / SIDE - other / SIDE) + Math.abs(one % SIDE - other % SIDE);
         }
 
-        /** The k-th STEP of the first of the shortest ways. */
+        /** The least STEP that leaves a shortest rest, taken each time, makes the first of the shortest ways. */
         int stepFrom(int from, int k) {
             int cell = from;
             int set = without((1 << size) - 1, from);
@@ -994,7 +992,6 @@ public final class HarrowSaid {
             return step;
         }
 
-        /** The least STEP behind which one STEP less is left to do. */
         int firstStep(int cell, int set) {
             int left = fewest(cell, set);
             for (int step = 0; step < STEPS; step++) {
@@ -1007,7 +1004,7 @@ public final class HarrowSaid {
         }
     }
 
-    /** THE TEXT, and how it is read into a nave of its own, TOKEN by TOKEN. */
+    /** THE TEXT is read into a nave of its own, so that a FAULT leaves all else as it was. */
     private static final class Text {
         static final int WORD = 0;
         static final int NUMBER = 1;
@@ -1026,7 +1023,7 @@ public final class HarrowSaid {
         int token;
         int value;
 
-        /** How many ITEMS there are, the nave being as they say, or -10 less the FAULT. */
+        /** Below 0 the nave is half read and must not be used: the answer is -10 less the FAULT. */
         int readItems() {
             int items = 0;
             place = 0;
