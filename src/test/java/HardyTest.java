@@ -63,13 +63,13 @@ public final class HardyTest {
         }
     }
 
-    private static void longRun(int run) {
+    private static void longRun(int run, int seldom) {
         Random by = new Random(run);
         HarrowSaid x = new HarrowSaid();
         for (int n = 0; n < 20000; n++) {
             int which = by.nextInt(ModelTest.NAMES.length);
             // What sweeps all away comes seldom, or nothing would ever grow full.
-            if ((which < 3 || which == 5 || which == 10) && by.nextInt(20) > 0) {
+            if ((which < 6 && which != 3 || which == 10 || which == 21) && by.nextInt(seldom) > 0) {
                 which = 6 + by.nextInt(4);
             }
             int[] a = ModelTest.arguments(by, which);
@@ -89,7 +89,7 @@ public final class HardyTest {
         }
         eachEnd(full);
         for (int run = 0; run < 10; run++) {
-            longRun(run);
+            longRun(run, run % 2 == 0 ? 20 : 2000);
         }
         System.out.println(wrong == 0 ? "nothing is thrown, nothing refused changes a thing" : wrong + " calls did what they must not");
         if (wrong != 0) {
